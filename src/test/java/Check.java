@@ -1,0 +1,53 @@
+/** Counts checks, and prints those that fail. */
+final class Check {
+    interface Call {
+        void run();
+    }
+
+    private static int passed;
+    private static int failed;
+
+    private Check() {
+    }
+
+    static void due(String what, long got, long want) {
+        verdict(got == want, what + " answered " + got + ", due is " + want);
+    }
+
+    static void due(String what, boolean got, boolean want) {
+        verdict(got == want, what + " answered " + got + ", due is " + want);
+    }
+
+    static void due(String what, String got, String want) {
+        verdict(got.equals(want), what + " answered " + got + ", due is " + want);
+    }
+
+    static void fails(String what, Class<? extends RuntimeException> want, Call call) {
+        String got = thrownBy(call);
+        verdict(got.equals(want.getSimpleName()), what + " threw " + got + ", due is " + want.getSimpleName());
+    }
+
+    static String thrownBy(Call call) {
+        try {
+            call.run();
+        } catch (RuntimeException e) {
+            return e.getClass().getSimpleName();
+        }
+        return "nothing";
+    }
+
+    /** Ends the program, with exit code 1 if a check failed. */
+    static void close() {
+        System.out.println(passed + " checks passed, " + failed + " checks failed");
+        System.exit(failed == 0 ? 0 : 1);
+    }
+
+    private static void verdict(boolean isRight, String message) {
+        if (isRight) {
+            passed++;
+        } else {
+            failed++;
+            System.out.println(message);
+        }
+    }
+}
