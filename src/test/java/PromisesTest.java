@@ -329,6 +329,10 @@ public final class PromisesTest {
         Check.fails("8: year -1", ARGUMENT, () -> page.meant(0, -1));
         page.author(0, 0, 99);
         Check.due("8: the year 0", page.meant(99, 0), 5);
+        GlossedPage other = new GlossedPage();
+        other.author(7, 0, 1);
+        other.author(3, 0, 1);
+        Check.due("8: the greatest year comes first", other.meant(1, 9), 0);
     }
 
     private static void comment() {
@@ -502,6 +506,9 @@ public final class PromisesTest {
         Check.due("13: with an objection", page.isHard(0), true);
         page.emend(0, 0, 3);
         Check.due("13: though it is LOST", page.isHard(0), true);
+        GlossedPage other = pageWith(1);
+        doubt(other, 0, OBJECTION);
+        Check.due("13: by the comment 0", other.isHard(0), true);
         Check.fails("13: unit 2 of 2", INDEX, () -> page.isHard(2));
         Check.fails("13: unit -1", INDEX, () -> page.isHard(-1));
     }
