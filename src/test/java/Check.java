@@ -1,3 +1,6 @@
+import java.lang.reflect.InvocationTargetException;
+import java.lang.reflect.Method;
+
 /** Counts checks, and prints those that fail. */
 final class Check {
     interface Call {
@@ -34,6 +37,22 @@ final class Check {
             return e.getClass().getSimpleName();
         }
         return "nothing";
+    }
+
+    /** What a call answers, or the exception's name; an argument that is a flag is told as 1 or 0. */
+    static String outcome(Object asked, Method method, int[] with) {
+        Object[] arguments = new Object[with.length];
+        for (int n = 0; n < with.length; n++) {
+            boolean isFlag = method.getParameterTypes()[n] == boolean.class;
+            arguments[n] = isFlag ? (Object) (with[n] == 1) : (Object) with[n];
+        }
+        try {
+            return method.invoke(asked, arguments).toString();
+        } catch (InvocationTargetException e) {
+            return e.getCause().getClass().getSimpleName();
+        } catch (IllegalAccessException e) {
+            return e.toString();
+        }
     }
 
     /** Ends the program, with exit code 1 if a check failed. */

@@ -84,6 +84,7 @@ public final class FaceTest {
             Check.due("rule 11: the fields of " + nested, nested.getDeclaredFields().length <= 20, true);
             for (Method method : nested.getDeclaredMethods()) {
                 Check.due("rule 1: " + method, names.contains(method.getName()), false);
+                Check.due("rule 11: the parameters of " + method, method.getParameterCount() <= 7, true);
             }
         }
         for (Method method : GlossedPage.class.getDeclaredMethods()) {

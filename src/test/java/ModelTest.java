@@ -1,4 +1,3 @@
-import java.lang.reflect.InvocationTargetException;
 import java.lang.reflect.Method;
 import java.util.ArrayList;
 import java.util.Arrays;
@@ -56,8 +55,8 @@ public final class ModelTest {
     }
 
     private boolean compare(int run, int which, int[] with) {
-        String want = outcome(model, OF_MODEL[which], with);
-        String got = outcome(page, OF_PAGE[which], with);
+        String want = Check.outcome(model, OF_MODEL[which], with);
+        String got = Check.outcome(page, OF_PAGE[which], with);
         told.add(describe(which, with) + " = " + got);
         Check.due("run " + run + ": " + describe(which, with), got, want);
         if (!got.equals(want)) {
@@ -170,19 +169,5 @@ public final class ModelTest {
             }
         }
         return methods;
-    }
-
-    private static String outcome(Object asked, Method method, int[] with) {
-        Object[] arguments = new Object[with.length];
-        for (int n = 0; n < with.length; n++) {
-            arguments[n] = method.getParameterTypes()[n] == boolean.class ? (Object) (with[n] == 1) : with[n];
-        }
-        try {
-            return method.invoke(asked, arguments).toString();
-        } catch (InvocationTargetException e) {
-            return e.getCause().getClass().getSimpleName();
-        } catch (IllegalAccessException e) {
-            return e.toString();
-        }
     }
 }

@@ -1,16 +1,5 @@
 /** Each promise by itself: ordinary inputs, the edges that the document names, and wrong inputs. */
-public final class PromisesTest {
-    private static final Class<IndexOutOfBoundsException> INDEX = IndexOutOfBoundsException.class;
-    private static final Class<IllegalArgumentException> ARGUMENT = IllegalArgumentException.class;
-    private static final Class<IllegalStateException> STATE = IllegalStateException.class;
-    private static final int NONE = GlossedPage.NONE;
-    private static final int QUESTION = GlossedPage.QUESTION, OBJECTION = GlossedPage.OBJECTION;
-    private static final int PROOF = GlossedPage.PROOF, ANSWER = GlossedPage.ANSWER, NOTE = GlossedPage.NOTE;
-    private static final int INNER = GlossedPage.INNER, OUTER = GlossedPage.OUTER;
-    private static final int SCHOOL = GlossedPage.SCHOOL, LATEST = GlossedPage.LATEST;
-    private static final int MOST = GlossedPage.MOST, EXCEPT = GlossedPage.EXCEPT;
-    private static final int[] WILD = {Integer.MIN_VALUE, -2, 1000000, Integer.MAX_VALUE};
-
+public final class PromisesTest extends Pages {
     private PromisesTest() {
     }
 
@@ -48,48 +37,6 @@ public final class PromisesTest {
         daily();
         Check.close();
     }
-
-    // ---- what the tests begin with
-
-    private static void draft(GlossedPage page, int... words) {
-        for (int word : words) {
-            page.word(word);
-        }
-    }
-
-    private static void addUnit(GlossedPage page, int... words) {
-        draft(page, words);
-        page.unit();
-    }
-
-    private static GlossedPage pageWith(int... words) {
-        GlossedPage page = new GlossedPage();
-        addUnit(page, words);
-        page.author(1000, 0, 0);
-        return page;
-    }
-
-    private static int note(GlossedPage page, int unit, int word, int nth, int lines, int margin) {
-        return page.comment(0, unit, NOTE, word, nth, lines, margin);
-    }
-
-    private static int doubt(GlossedPage page, int author, int kind) {
-        return page.comment(author, 0, kind, 1, 1, 1, INNER);
-    }
-
-    private static int on(GlossedPage page, int author, int comment, int kind) {
-        return page.gloss(author, comment, kind, 1, INNER);
-    }
-
-    private static String textOf(GlossedPage page, int unit) {
-        StringBuilder words = new StringBuilder();
-        for (int place = 0; page.textOf(unit, place) != NONE; place++) {
-            words.append(place == 0 ? "" : " ").append(page.textOf(unit, place));
-        }
-        return words.toString();
-    }
-
-    // ---- the promises
 
     private static void constants() {
         Check.due("NONE", GlossedPage.NONE, -1);
